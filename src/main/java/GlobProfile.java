@@ -728,11 +728,17 @@ public final class GlobProfile {
         }
 
         private boolean areOfOneKind(int i, int j) {
-            boolean same = kindOfSet(i) == kindOfSet(j);
-            for (int c = 0; c < union.columnCount && same; c++) {
-                same = kindOfSet(graph.lead(i, c)) == kindOfSet(graph.lead(j, c));
+            if (kindOfSet(i) != kindOfSet(j)) {
+                return false;
             }
-            return same;
+            for (int c = 0; c < union.columnCount; c++) {
+                int fromI = graph.lead(i, c);
+                int fromJ = graph.lead(j, c);
+                if (fromI != fromJ && kindOfSet(fromI) != kindOfSet(fromJ)) {
+                    return false;
+                }
+            }
+            return true;
         }
 
         private int kindOfSet(int i) {
