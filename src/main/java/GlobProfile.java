@@ -291,7 +291,7 @@ public final class GlobProfile {
         /** Says whether the newest piece reads the bytes of some symbols. */
         void setReads(int leastSymbol, int greatestSymbol, boolean reads) {
             long piece = 1L << pieceCount;
-            for (int s = Math.max(leastSymbol, 0); s <= greatestSymbol && s < readersOf.length; s++) {
+            for (int s = leastSymbol; s >= 0 && s <= greatestSymbol && s < readersOf.length; s++) {
                 readersOf[s] = reads ? readersOf[s] | piece : readersOf[s] & ~piece;
             }
         }

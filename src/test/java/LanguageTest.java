@@ -17,7 +17,7 @@ public final class LanguageTest {
             "int rules()", "int pieces(int)", "int compile(int)", "int sets()", "int states()", "int next(int,int)",
             "int gives(int)", "int match()", "int walk(int)", "boolean restart()", "int place()", "int way(int)");
     private static final String BANNED = "\\b(throw|try|catch|synchronized|assert|volatile|package|protected|throws)\\b|->|::";
-    private static final Set<String> LIBRARY = Set.of("Arrays.fill", "System.arraycopy", "Math.max", "Typed.END");
+    private static final Set<String> LIBRARY = Set.of("Arrays.fill", "System.arraycopy", "Typed.END");
     private static final Check CHECK = new Check();
 
     public static void main(String[] args) throws IOException {
