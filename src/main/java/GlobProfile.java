@@ -145,8 +145,11 @@ public final class GlobProfile {
     }
 
     public boolean restart() {
+        if (!table.isMade()) {
+            return false;
+        }
         walkState = 0;
-        return table.isMade();
+        return true;
     }
 
     public int place() {

@@ -5,18 +5,22 @@ final class Check {
     private int wrong;
 
     void due(String call, long got, long want) {
-        calls++;
-        if (got == want) {
-            return;
-        }
-        wrong++;
-        if (wrong <= MOST_PRINTED) {
-            System.out.println(call + " answered " + got + ", due is " + want);
-        }
+        count(got == want, call + " answered " + got + ", due is " + want);
     }
 
     void due(String call, boolean got, boolean want) {
         due(call, got ? 1 : 0, want ? 1 : 0);
+    }
+
+    /** Of two long texts only the first lines that differ are printed. */
+    void same(String about, String got, String want) {
+        String[] gotLines = got.split("\n");
+        String[] wantLines = want.split("\n");
+        int i = 0;
+        while (i < gotLines.length && i < wantLines.length && gotLines[i].equals(wantLines[i])) {
+            i++;
+        }
+        count(got.equals(want), about + ": seen is " + lineAt(gotLines, i) + ", due is " + lineAt(wantLines, i));
     }
 
     void end() {
@@ -24,5 +28,20 @@ final class Check {
         if (wrong != 0) {
             System.exit(1);
         }
+    }
+
+    private void count(boolean right, String report) {
+        calls++;
+        if (right) {
+            return;
+        }
+        wrong++;
+        if (wrong <= MOST_PRINTED) {
+            System.out.println(report);
+        }
+    }
+
+    private static String lineAt(String[] lines, int i) {
+        return i < lines.length ? "\"" + lines[i] + "\"" : "nothing";
     }
 }
