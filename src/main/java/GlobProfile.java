@@ -503,7 +503,6 @@ public final class GlobProfile {
             Arrays.fill(readersOf, 0L);
             pieceCount = 0;
             ruleCount = 0;
-            columnCount = 0;
         }
 
         void add(Rule rule) {

@@ -1,10 +1,18 @@
+import java.util.ArrayList;
+import java.util.List;
 import java.util.Random;
 
 /** Long runs of calls, drawn with fixed seeds, whose every answer is the model's. */
 public final class ModelTest {
     private static final int PROFILES = 300;
-    private static final int RUNS = 100;
+    private static final int RUNS = 300;
+    /** An object may be used for 512 calls; the dearest draw of a run makes 16. */
+    private static final int MOST_CALLS = 512 - 16;
     private static final Check CHECK = new Check();
+    private static int callsOfRun;
+
+    private record Rule(String glob, boolean allow, int permissions) {
+    }
 
     public static void main(String[] args) {
         for (int seed = 0; seed < PROFILES; seed++) {
@@ -18,61 +26,69 @@ public final class ModelTest {
 
     private static void wholeTable(int seed) {
         Random random = new Random(seed);
+        List<Rule> rules = new ArrayList<>();
+        int count = random.nextInt(5) + 1;
+        for (int k = 0; k < count; k++) {
+            String glob = Globs.glob(random, random.nextInt(8) + 1);
+            rules.add(new Rule(glob, random.nextInt(3) > 0, random.nextInt(7) + 1));
+        }
+        String about = "profile " + seed + " " + rules + ":";
         GlobProfile profile = new GlobProfile();
         Model model = new Model();
-        String about = "profile " + seed + ":";
-        int rules = random.nextInt(5) + 1;
-        for (int k = 0; k < rules; k++) {
-            String glob = Globs.glob(random, random.nextInt(8) + 1);
-            boolean allow = random.nextInt(3) > 0;
-            int permissions = random.nextInt(7) + 1;
-            about += " " + (allow ? "+" : "-") + permissions + glob;
-            typeBoth(profile, model, glob);
-            CHECK.due(about + " rule", profile.rule(allow, permissions), model.rule(allow, permissions));
+        for (int k = 0; k < count; k++) {
+            Rule rule = rules.get(k);
+            typeBoth(profile, model, rule.glob);
+            CHECK.due(about + " rule", profile.rule(rule.allow, rule.permissions), model.rule(rule.allow, rule.permissions));
             CHECK.due(about + " pieces", profile.pieces(k), model.pieces(k));
         }
         CHECK.due(about + " compile", profile.compile(120), model.compile(120));
-        sameTable(about, profile, model);
-        if (model.sets() > 1) {
-            int sets = model.sets();
-            CHECK.due(about + " compile at its sets", profile.compile(sets), model.compile(sets));
-            CHECK.due(about + " compile below its sets", profile.compile(sets - 1), model.compile(sets - 1));
-            profile.compile(sets);
-            model.compile(sets);
-        }
-        for (int i = 0; i < 30; i++) {
-            samePath(about, profile, model, random);
-        }
-    }
-
-    private static void sameTable(String about, GlobProfile profile, Model model) {
         CHECK.due(about + " sets", profile.sets(), model.sets());
         CHECK.due(about + " states", profile.states(), model.states());
+        int sets = model.sets();
+        if (sets > 1) {
+            CHECK.due(about + " compile below its sets", profile.compile(sets - 1), model.compile(sets - 1));
+            CHECK.due(about + " compile at its sets", profile.compile(sets), model.compile(sets));
+        }
         for (int s = -1; s <= model.states(); s++) {
-            CHECK.due(about + " gives " + s, profile.gives(s), model.gives(s));
-            for (int b = -1; b <= 256; b++) {
-                CHECK.due(about + " next " + s + " " + b, profile.next(s, b), model.next(s, b));
-            }
+            sameState(about, compiled(rules), model, s);
+        }
+        for (int i = 0; i < 30; i++) {
+            samePath(about, compiled(rules), model, Globs.path(random));
         }
     }
 
-    private static void samePath(String about, GlobProfile profile, Model model, Random random) {
-        String path = Globs.path(random);
+    private static GlobProfile compiled(List<Rule> rules) {
+        GlobProfile profile = new GlobProfile();
+        for (Rule rule : rules) {
+            Typist.type(profile, rule.glob);
+            profile.rule(rule.allow, rule.permissions);
+        }
+        profile.compile(120);
+        return profile;
+    }
+
+    private static void sameState(String about, GlobProfile profile, Model model, int s) {
+        CHECK.due(about + " gives " + s, profile.gives(s), model.gives(s));
+        for (int b = -1; b <= 256; b++) {
+            CHECK.due(about + " next " + s + " " + b, profile.next(s, b), model.next(s, b));
+        }
+    }
+
+    private static void samePath(String about, GlobProfile profile, Model model, String path) {
         typeBoth(profile, model, path);
         CHECK.due(about + " match " + path, profile.match(), model.match());
-        profile.restart();
-        if (model.restart()) {
-            int last = model.permissionsOf("");
-            for (int i = 0; i < path.length(); i++) {
-                last = profile.walk(path.charAt(i));
-                model.walk(path.charAt(i));
-            }
-            CHECK.due(about + " walk " + path, last, model.permissionsOf(path));
+        CHECK.due(about + " restart", profile.restart(), model.restart());
+        for (int i = 0; i < path.length() && model.states() > 0; i++) {
+            int b = path.charAt(i);
+            model.walk(b);
+            CHECK.due(about + " walk " + path, profile.walk(b), model.permissionsOf(path.substring(0, i + 1)));
         }
         CHECK.due(about + " place " + path, profile.place(), model.place());
         for (int permissions = -1; permissions < 9; permissions++) {
             CHECK.due(about + " way " + path, profile.way(permissions), model.way(permissions));
         }
+        // Without a table the path is still typed; a rule that is none takes it away before the next path.
+        CHECK.due(about + " rule of " + path, profile.rule(true, 0), model.rule(true, 0));
     }
 
     private static void typeBoth(GlobProfile profile, Model model, String text) {
@@ -80,6 +96,7 @@ public final class ModelTest {
             String part = text.substring(i, Math.min(i + 4, text.length()));
             int word = Typist.word(part);
             CHECK.due("type " + text, profile.type(word, part.length()), model.type(word, part.length()));
+            callsOfRun++;
         }
     }
 
@@ -87,8 +104,12 @@ public final class ModelTest {
         Random random = new Random(1000003L * seed);
         GlobProfile profile = new GlobProfile();
         Model model = new Model();
-        for (int call = 0; call < 500; call++) {
-            mixedCall("run " + seed + " call " + call + " ", profile, model, random);
+        callsOfRun = 0;
+        while (callsOfRun <= MOST_CALLS) {
+            String about = "run " + seed + " call " + callsOfRun + " ";
+            mixedCall(about, profile, model, random);
+            lookAtOne(about, profile, model, random.nextInt(4));
+            callsOfRun += 3;
         }
     }
 
@@ -118,10 +139,15 @@ public final class ModelTest {
             }
             default -> addRule(about, profile, model, random);
         }
-        CHECK.due(about + "rules", profile.rules(), model.rules());
-        CHECK.due(about + "sets", profile.sets(), model.sets());
-        CHECK.due(about + "states", profile.states(), model.states());
-        CHECK.due(about + "place", profile.place(), model.place());
+    }
+
+    private static void lookAtOne(String about, GlobProfile profile, Model model, int which) {
+        switch (which) {
+            case 0 -> CHECK.due(about + "rules", profile.rules(), model.rules());
+            case 1 -> CHECK.due(about + "sets", profile.sets(), model.sets());
+            case 2 -> CHECK.due(about + "states", profile.states(), model.states());
+            default -> CHECK.due(about + "place", profile.place(), model.place());
+        }
     }
 
     private static void addRule(String about, GlobProfile profile, Model model, Random random) {
