@@ -1,4 +1,5 @@
 import java.util.List;
+import java.util.function.ToIntFunction;
 
 /**
  * Each promise's edges: for every argument the last value that is taken and the first that is refused on each side, and
@@ -33,7 +34,15 @@ public final class EdgesTest {
         compileCapsOfAFullTable();
         compileBeginsTheWalk();
         compileTooManySets();
-        noTableAnywhere();
+        setsWithoutTable();
+        statesWithoutTable();
+        nextWithoutTable();
+        givesWithoutTable();
+        matchWithoutTable();
+        walkWithoutTable();
+        restartWithoutTable();
+        placeWithoutTable();
+        wayWithoutTable();
         nextStates();
         nextBytes();
         givesStates();
@@ -376,21 +385,77 @@ public final class EdgesTest {
         CHECK.due("7: ab", Typist.match(x, "ab"), 1);
     }
 
-    /** Promises 8 to 16: "0 if there is none", "-1 if .. no table", "false if there is no table". */
-    private static void noTableAnywhere() {
-        noTable("new", new GlobProfile());
-        GlobProfile x = Profiles.of("a");
-        noTable("rule", x);
-        x.compile(120);
-        x.drop(0);
-        noTable("drop", x);
-        x.compile(1);
-        noTable("too many sets", x);
-        x.compile(0);
-        noTable("cap refused", x);
-        x.compile(2);
-        CHECK.due("a table", x.states(), 1);
-        CHECK.due("8: sets", x.sets(), 2);
+    /** All the ways to an object without a table. */
+    private static List<GlobProfile> withoutTable() {
+        GlobProfile rule = Profiles.compiled("a");
+        rule.walk('a');
+        Typist.allow(rule, "b", 1);
+        GlobProfile drop = Profiles.compiled("a", "b");
+        drop.walk('a');
+        drop.drop(1);
+        GlobProfile tooMany = Profiles.compiled("a");
+        tooMany.walk('a');
+        tooMany.compile(2);
+        GlobProfile refused = Profiles.of("a");
+        refused.compile(121);
+        return List.of(new GlobProfile(), Profiles.of("a"), rule, drop, tooMany, refused);
+    }
+
+    private static void noTableDue(String call, int due, ToIntFunction<GlobProfile> asked) {
+        for (GlobProfile x : withoutTable()) {
+            CHECK.due(call + " without a table", asked.applyAsInt(x), due);
+        }
+        GlobProfile x = Profiles.compiled("{,a}");
+        CHECK.due(call + " with a table is another", asked.applyAsInt(x) != due, true);
+    }
+
+    /** Promise 8: "0 if there is none". */
+    private static void setsWithoutTable() {
+        noTableDue("8: sets()", 0, GlobProfile::sets);
+    }
+
+    /** Promise 9: "0 if there is none". */
+    private static void statesWithoutTable() {
+        noTableDue("9: states()", 0, GlobProfile::states);
+    }
+
+    /** Promise 10: "-1 if there is no such state or byte, or no table". */
+    private static void nextWithoutTable() {
+        noTableDue("10: next(0, 0)", -1, x -> x.next(0, 0));
+        noTableDue("10: next(0, 255)", -1, x -> x.next(0, 255));
+    }
+
+    /** Promise 11: "-1 if there is no such state, or no table". */
+    private static void givesWithoutTable() {
+        noTableDue("11: gives(0)", -1, x -> x.gives(0));
+    }
+
+    /** Promise 12: "-1, refused, if there is no table". */
+    private static void matchWithoutTable() {
+        noTableDue("12: match()", -1, GlobProfile::match);
+        noTableDue("12: match() of a", -1, x -> Typist.match(x, "a"));
+    }
+
+    /** Promise 13: "-1, refused, if .. there is no table". */
+    private static void walkWithoutTable() {
+        noTableDue("13: walk(0)", -1, x -> x.walk(0));
+        noTableDue("13: walk(255)", -1, x -> x.walk(255));
+    }
+
+    /** Promise 14: "false if there is no table". */
+    private static void restartWithoutTable() {
+        noTableDue("14: restart()", 0, x -> x.restart() ? 1 : 0);
+    }
+
+    /** Promise 15: "-1 if there is no table". */
+    private static void placeWithoutTable() {
+        noTableDue("15: place()", -1, GlobProfile::place);
+    }
+
+    /** Promise 16: "-1 if there is none, or no table". */
+    private static void wayWithoutTable() {
+        noTableDue("16: way(1)", -1, x -> x.way(1));
+        noTableDue("16: way(7)", -1, x -> x.way(7));
     }
 
     /** Promise 10: "-1 if there is no such state". */
