@@ -75,12 +75,12 @@ public final class GlobProfile {
         if (dropped == null) {
             return false;
         }
+        // The rule that goes changes places with each behind it: its slot is the room of one to come.
         for (int i = k; i + 1 < ruleCount && i + 1 < slots.length; i++) {
             slots[i] = slots[i + 1];
+            slots[i + 1] = dropped;
         }
         ruleCount--;
-        // The slot of the rule that goes is the room of one to come.
-        slots[ruleCount] = dropped;
         table.clear();
         return true;
     }
