@@ -511,7 +511,7 @@ public final class GlobProfile {
             }
             Glob glob = rule.glob;
             behind[0] |= moved(glob.behind[0]);
-            for (int p = 1; p <= glob.pieceCount; p++) {
+            for (int p = 1; p <= glob.pieceCount && p < glob.behind.length; p++) {
                 behind[pieceCount + p] = moved(glob.behind[p]);
             }
             for (int s = 0; s < SYMBOLS; s++) {
@@ -533,16 +533,23 @@ public final class GlobProfile {
         void groupSymbols() {
             columnCount = 0;
             for (int s = 0; s < SYMBOLS; s++) {
-                int c = 0;
-                while (c < columnCount && readersOfColumn[c] != readersOf[s]) {
-                    c++;
-                }
-                if (c == columnCount) {
-                    readersOfColumn[c] = readersOf[s];
-                    columnCount++;
-                }
-                columnOf[s] = c;
+                columnOf[s] = columnFor(readersOf[s]);
             }
+        }
+
+        /** The column that the readers have, a new one if there is none. */
+        private int columnFor(long readers) {
+            for (int c = 0; c < columnCount && c < SYMBOLS; c++) {
+                if (readersOfColumn[c] == readers) {
+                    return c;
+                }
+            }
+            if (columnCount >= SYMBOLS) {
+                return NONE;
+            }
+            readersOfColumn[columnCount] = readers;
+            columnCount++;
+            return columnCount - 1;
         }
 
         int columnOfByte(int b) {
@@ -609,7 +616,7 @@ public final class GlobProfile {
 
         private boolean exploreFrom(int i, int cap) {
             long candidates = union.behindAll(found[i]);
-            for (int c = 0; c < union.columnCount; c++) {
+            for (int c = 0; c < union.columnCount && c < SYMBOLS; c++) {
                 int to = numberOf(candidates & union.readersOfColumn(c), cap);
                 if (to < 0) {
                     return false;
@@ -646,7 +653,11 @@ public final class GlobProfile {
         }
 
         int lead(int i, int c) {
-            return i >= 0 && i < count && c >= 0 && c < union.columnCount ? leads[i * SYMBOLS + c] : NONE;
+            if (i < 0 || i >= count || c < 0 || c >= union.columnCount) {
+                return NONE;
+            }
+            int at = i * SYMBOLS + c;
+            return at < leads.length ? leads[at] : NONE;
         }
 
         int permissionsOf(int i) {
@@ -704,7 +715,7 @@ public final class GlobProfile {
 
         private void partByPermissions() {
             kindCount = 0;
-            for (int i = 0; i < graph.count; i++) {
+            for (int i = 0; i < graph.count && i < MOST_SETS; i++) {
                 kindOf[i] = graph.permissionsOf(i);
             }
         }
@@ -712,7 +723,7 @@ public final class GlobProfile {
         /** Parts the sets of one kind from which some byte leads to different kinds; false if there are none. */
         private boolean partByLeads() {
             int finer = 0;
-            for (int i = 0; i < graph.count; i++) {
+            for (int i = 0; i < graph.count && i < MOST_SETS; i++) {
                 int k = 0;
                 while (k < finer && !areOfOneKind(leaderOf[k], i)) {
                     k++;
@@ -744,7 +755,7 @@ public final class GlobProfile {
         }
 
         private int kindOfSet(int i) {
-            return i >= 0 && i < graph.count ? kindOf[i] : NONE;
+            return i >= 0 && i < graph.count && i < MOST_SETS ? kindOf[i] : NONE;
         }
 
         private void numberStates() {
